@@ -19,6 +19,7 @@ public final class PromiseTest {
         cell();
         text();
         textFarOff();
+        textAtEdges();
         bars();
         square();
         picture();
@@ -348,6 +349,37 @@ public final class PromiseTest {
         due("dark dots", x.told(6), 1 + 5 + 3 + 3);
     }
 
+    /** One dark dot in the last corner of a greatest cell, and one in its first, each just on the sheet or just off. */
+    private static void textAtEdges() {
+        promise = "11 text";
+        DotSheet x = new DotSheet();
+        x.sheet(100, 90);
+        x.font(0, 32, 32, 0);
+        x.cell(0, 1, 31, 1);
+        x.cell(0, 2, 0, 0x80000000);
+        x.write(1, 1);
+        for (int quarter = 0; quarter < 4; quarter++) {
+            int a = quarter == 0 || quarter == 3 ? -319 : 99 + 319;
+            int b = quarter < 2 ? -319 : 89 + 319;
+            int outX = a < 0 ? -1 : 1;
+            int outY = b < 0 ? -1 : 1;
+            due("last dot on, quarter " + quarter, x.text(a, b, 0, 0xAA, quarter), 1);
+            due("its column off, quarter " + quarter, x.text(a + outX, b, 0, 0xAA, quarter), 0);
+            due("its row off, quarter " + quarter, x.text(a, b + outY, 0, 0xAA, quarter), 0);
+        }
+        x.wipe();
+        x.write(1, 2);
+        for (int quarter = 0; quarter < 4; quarter++) {
+            int a = quarter == 0 || quarter == 3 ? 99 : 0;
+            int b = quarter < 2 ? 89 : 0;
+            int outX = a == 99 ? 1 : -1;
+            int outY = b == 89 ? 1 : -1;
+            due("first dot on, quarter " + quarter, x.text(a, b, 0, 0xAA, quarter), 1);
+            due("its column off, quarter " + quarter, x.text(a + outX, b, 0, 0xAA, quarter), 0);
+            due("its row off, quarter " + quarter, x.text(a, b + outY, 0, 0xAA, quarter), 0);
+        }
+    }
+
     private static void bars() {
         promise = "12 bars";
         DotSheet x = new DotSheet();
@@ -507,6 +539,11 @@ public final class PromiseTest {
         int[] edges = {300, 200, 0, 0, 299, 199, 999};
         for (int what = 0; what < 7; what++) {
             due("edges " + what, x.told(what), edges[what]);
+        }
+        x.sheet(1024, 1024);
+        x.frame(1023, 1023, 1, 1, 1);
+        for (int what = 2; what < 6; what++) {
+            due("the last dot " + what, x.told(what), 1023);
         }
         illegal("-1", () -> x.told(-1));
         illegal("7", () -> x.told(7));
