@@ -1,6 +1,10 @@
 import java.util.function.LongSupplier;
 
-/** For each promise: ordinary inputs, the edges that the document names, and wrong inputs. */
+/**
+ * For each promise: ordinary inputs, the edges that the document names, and wrong inputs.
+ * A draft is full with the 512th call at the earliest, so tests of a full one go on beyond it,
+ * where the document leaves answers free and this program still keeps its promises.
+ */
 public final class PromiseTest {
     private static int wrong = 0;
     private static String promise = "";
