@@ -37,11 +37,13 @@ public final class BoundaryTest {
         pictureRows();
         turnPlaces();
         turnOfNarrowSheets();
+        turnOfSmallerSheets();
         turnAlone();
         toldRange();
         toldOfNone();
         toldOfEdges();
         countAsFarAsOnTheSheet();
+        countOfTheGreatestSheet();
         dotsRange();
         dotsNotOnTheSheet();
         dotsFirstAsHighest();
@@ -503,6 +505,25 @@ public final class BoundaryTest {
         Checks.due("nothing behind", x.dots(1020, 0, 8), 0xF0);
     }
 
+    /** What lay on greater sheets must not come back with a turn of a smaller one. */
+    private static void turnOfSmallerSheets() {
+        Checks.about("15: its dot (px, py) comes to (height - 1 - py, px), and no other dot comes");
+        DotSheet x = new DotSheet();
+        x.write(1, 255);
+        x.sheet(1024, 1024);
+        x.bars(0, 0, 1024, 50, 0);
+        x.turn(1);
+        x.sheet(70, 3);
+        x.frame(0, 0, 1, 1, 1);
+        for (int quarter = 1; quarter <= 3; quarter++) {
+            x.turn(quarter);
+            Checks.due("one dot", x.told(6), 1);
+            Checks.due("its x", x.told(4), x.told(2));
+            Checks.due("its y", x.told(5), x.told(3));
+        }
+        Checks.due("half turned in all", x.dots(69, 2, 1), 1);
+    }
+
     private static void turnAlone() {
         Checks.about("15: the way, the draft and the fonts stay");
         DotSheet x = new DotSheet();
@@ -591,6 +612,24 @@ public final class BoundaryTest {
             Checks.due("w " + w, x.count(0, 1, w, 1), Math.min(Math.max(w - 1, 0), 98));
             Checks.due("x " + (100 - w), x.count(100 - w, 1, w, 1), Math.min(Math.max(w - 1, 0), 98));
         }
+    }
+
+    private static void countOfTheGreatestSheet() {
+        Checks.about("17: as far as they lie on the sheet, when it is as great as it can be");
+        DotSheet x = new DotSheet();
+        x.sheet(1024, 1024);
+        x.write(1, 255);
+        x.bars(0, 0, 1024, 50, 0);
+        Checks.due("all", x.count(0, 0, 1024, 1024), 1024 * 1024);
+        Checks.due("more than all", x.count(-1, -1, 2048, 2048), 1024 * 1024);
+        Checks.due("over the right edge", x.count(1023, 5, 2, 1), 1);
+        Checks.due("far over the right edge", x.count(1023, 5, 2048, 7), 7);
+        Checks.due("over the lower edge", x.count(5, 1023, 1, 2), 1);
+        Checks.due("far over the lower edge", x.count(5, 1023, 7, 2048), 7);
+        Checks.due("over the left edge", x.count(-1, 5, 2, 1), 1);
+        Checks.due("over the upper edge", x.count(5, -1, 1, 2), 1);
+        Checks.due("right of it", x.count(1024, 0, 64, 1024), 0);
+        Checks.due("below it", x.count(0, 1024, 1024, 64), 0);
     }
 
     private static void dotsRange() {

@@ -56,6 +56,8 @@ public final class TermsTest {
         squareBits();
         pictureRows();
         namedFirst();
+        changesNothing();
+        askingChangesNothing();
         coordinates();
         sizes();
         thicknesses();
@@ -526,6 +528,33 @@ public final class TermsTest {
         Checks.refused("run: x is no coordinate, nor on the sheet", illegal, x -> x.run(4097, 0, 0, false));
         Checks.refused("run: y is no coordinate, x not on the sheet", illegal, x -> x.run(-1, -4097, 0, true));
         Checks.refused("run: x is no coordinate, y not on the sheet", illegal, x -> x.run(-4097, 9, 0, true));
+    }
+
+    private static void changesNothing() {
+        Checks.about("a call that throws, or answers NONE, changes nothing");
+        int last = Prepared.WIDTH - 1;
+        Checks.leaves("run behind the last", x -> Checks.due("run", x.run(last, 0, 1, false), DotSheet.NONE));
+        Checks.leaves("run down below 0", x -> Checks.due("run", x.run(0, 0, -1, true), DotSheet.NONE));
+        Checks.refused("told, that would be NONE", IllegalArgumentException.class, x -> x.told(DotSheet.NONE));
+        DotSheet light = new DotSheet();
+        Checks.due("least x of none", light.told(2), DotSheet.NONE);
+        Checks.due("greatest y of none", light.told(5), DotSheet.NONE);
+        Checks.due("none still", light.told(6), 0);
+    }
+
+    private static void askingChangesNothing() {
+        Checks.about("what is on the sheet is told back, and stays");
+        Checks.leaves("told", x -> {
+            for (int what = 0; what <= 6; what++) {
+                x.told(what);
+            }
+        });
+        Checks.leaves("count", x -> x.count(-5, -5, 2048, 2048));
+        Checks.leaves("dots", x -> x.dots(-5, 3, 64));
+        Checks.leaves("run", x -> x.run(3, 0, 2, false));
+        Checks.leaves("run down", x -> x.run(3, 0, 1, true));
+        Checks.leaves("turn by none", x -> x.turn(0));
+        Checks.leaves("the way that it is", x -> x.way(2));
     }
 
     private static void coordinates() {

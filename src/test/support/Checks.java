@@ -57,8 +57,13 @@ final class Checks {
 
     /** The call throws just this exception, and leaves a sheet on which much is set as it was. */
     static void refused(String what, Class<?> exception, Call call) {
+        leaves(what, x -> throwing(what, () -> call.on(x), exception));
+    }
+
+    /** The call leaves a sheet on which much is set as it was. */
+    static void leaves(String what, Call call) {
         DotSheet x = Prepared.make();
-        throwing(what, () -> call.on(x), exception);
+        call.on(x);
         if (!Prepared.allOf(x).equals(Prepared.ALL)) {
             complain(what + " changed something");
         }
